@@ -693,7 +693,7 @@ public final class WorldProver {
             }
             if (letter == Terms.UNIT) {
                 tokens.take();
-                return terms.add(Terms.UNIT, 0, 0, 0, NONE);
+                return terms.unit();
             }
             if (Terms.partsOf(letter) == 0) {
                 return fail(MISPLACED, tokens.start());
@@ -736,7 +736,7 @@ public final class WorldProver {
                 return fail(NOT_AROUND, tokens.start());
             }
             tokens.take();
-            return terms.add(Terms.HYPOTHESIS, number, 0, 0, NONE);
+            return terms.hypothesis(number);
         }
     }
 
@@ -813,6 +813,10 @@ public final class WorldProver {
 
         int hypothesis(int number) {
             return add(HYPOTHESIS, number, 0, 0, NONE);
+        }
+
+        int unit() {
+            return add(UNIT, 0, 0, 0, NONE);
         }
 
         int lambda(int formula, int body, int bound) {
@@ -1300,13 +1304,9 @@ public final class WorldProver {
                 return provedBy(terms.one(Terms.ANYTHING, sequents.termAt(d, i)));
             }
             if (goal == TRUE) {
-                return provedBy(unit());
+                return provedBy(terms.unit());
             }
             return beginByShape(d, goal);
-        }
-
-        private int unit() {
-            return terms.add(Terms.UNIT, 0, 0, 0, NONE);
         }
 
         private int beginByShape(int d, int goal) {
@@ -1394,7 +1394,7 @@ public final class WorldProver {
             int b = formulas.secondOf(f);
             switch (formulas.kindOf(a)) {
                 case TRUE:
-                    return waitIf(sequents.comes(d + 1, b, terms.two(Terms.APPLY, t, unit())), d, SAME);
+                    return waitIf(sequents.comes(d + 1, b, terms.two(Terms.APPLY, t, terms.unit())), d, SAME);
                 case VARIABLE:
                     int u = sequents.termAt(d, sequents.indexOf(d, a));
                     return waitIf(sequents.comes(d + 1, b, terms.two(Terms.APPLY, t, u)), d, SAME);
@@ -1705,30 +1705,24 @@ public final class WorldProver {
             }
             int rounds = many > 6 ? 1 << (many - 6) : 1;
             for (int round = 0; round < rounds; round++) {
-                if (valueInRound(f, variables, round) != -1L) {
+                for (int i = 0; i <= f && i < MOST_FORMULAS; i++) {
+                    if (marks[i] == 1) {
+                        values[i] = valueBy(i, variables, round);
+                    }
+                }
+                if (valueOf(f) != -1L) {
                     return 0;
                 }
             }
             return 1;
         }
 
-        private long valueInRound(int f, int variables, int round) {
-            for (int i = 0; i <= f && i < MOST_FORMULAS; i++) {
-                if (marks[i] == 1) {
-                    int a = formulas.firstOf(i);
-                    long here = valueOf(a);
-                    long there = valueOf(formulas.secondOf(i));
-                    switch (formulas.kindOf(i)) {
-                        case TRUE: values[i] = -1L; break;
-                        case VARIABLE: values[i] = assigned(a, variables, round); break;
-                        case AND: values[i] = here & there; break;
-                        case OR: values[i] = here | there; break;
-                        case IMPLIES: values[i] = ~here | there; break;
-                        default: values[i] = 0L; break;
-                    }
-                }
+        private long valueBy(int f, int variables, int round) {
+            switch (formulas.kindOf(f)) {
+                case VARIABLE: return assigned(formulas.firstOf(f), variables, round);
+                case IMPLIES: return ~failing(f);
+                default: return simpleValue(f);
             }
-            return valueOf(f);
         }
 
         private static long assigned(int v, int variables, int round) {
@@ -1744,20 +1738,34 @@ public final class WorldProver {
             markAll(f);
             for (int i = 0; i <= f && i < MOST_FORMULAS; i++) {
                 if (marks[i] == 1) {
-                    int a = formulas.firstOf(i);
-                    long here = valueOf(a);
-                    long there = valueOf(formulas.secondOf(i));
-                    switch (formulas.kindOf(i)) {
-                        case TRUE: values[i] = -1L; break;
-                        case VARIABLE: values[i] = worlds.forcing(a); break;
-                        case AND: values[i] = here & there; break;
-                        case OR: values[i] = here | there; break;
-                        case IMPLIES: values[i] = ~worlds.below(here & ~there); break;
-                        default: values[i] = 0L; break;
-                    }
+                    values[i] = valueIn(i, worlds);
                 }
             }
             return valueOf(f);
+        }
+
+        private long valueIn(int f, Worlds worlds) {
+            switch (formulas.kindOf(f)) {
+                case VARIABLE: return worlds.forcing(formulas.firstOf(f));
+                case IMPLIES: return ~worlds.below(failing(f));
+                default: return simpleValue(f);
+            }
+        }
+
+        private long simpleValue(int f) {
+            long a = valueOf(formulas.firstOf(f));
+            long b = valueOf(formulas.secondOf(f));
+            switch (formulas.kindOf(f)) {
+                case TRUE: return -1L;
+                case AND: return a & b;
+                case OR: return a | b;
+                default: return 0L;
+            }
+        }
+
+        /** Where the first part is so and the second is not. */
+        private long failing(int f) {
+            return valueOf(formulas.firstOf(f)) & ~valueOf(formulas.secondOf(f));
         }
     }
 

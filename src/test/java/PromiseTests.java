@@ -23,6 +23,8 @@ public final class PromiseTests {
         provingNested();
         provingRefused();
         provingFull();
+        provingWithoutRoom();
+        provingAgain();
         telling();
         proofs();
         checking();
@@ -270,6 +272,7 @@ public final class PromiseTests {
         WorldProver x = new WorldProver();
         due("closed is not open", read(x, "(a)&~a&".repeat(200) + "a") > 0 ? 1 : 0, 1);
         due("an arrow closes", read(x, "(a->a)&".repeat(100) + "a") > 0 ? 1 : 0, 1);
+        due("<-> closes", read(x, "(a<->a)&".repeat(100) + "a") > 0 ? 1 : 0, 1);
         due("arrows close at <->", read(x, "a->".repeat(40) + "a<->" + "a->".repeat(39) + "a") > 0 ? 1 : 0, 1);
         due("<-> stays open", read(x, "a<->" + "a->".repeat(40) + "a"), -13);
         due("place()", x.place(), 4 + 3 * 39 + 1);
@@ -314,10 +317,15 @@ public final class PromiseTests {
     /** With so many formulas; the variable a is 2, a&a is 3. */
     private static WorldProver full(int formulas) {
         WorldProver x = new WorldProver();
-        read(x, "a" + "&a".repeat(1400));
-        read(x, "a" + "|a".repeat(formulas - 1403));
-        due("count(0)", x.count(0), formulas);
+        fill(x, formulas);
         return x;
+    }
+
+    private static void fill(WorldProver x, int formulas) {
+        read(x, "a");
+        read(x, "a" + "&a".repeat(1400));
+        read(x, "a" + "|a".repeat(formulas - x.count(0)));
+        due("count(0)", x.count(0), formulas);
     }
 
     private static void places() {
@@ -570,17 +578,64 @@ public final class PromiseTests {
         due("told(0)", x.told(0), 200);
         due("told(2)", x.told(2), 200);
         due("prove, full ahead of spent", x.prove(f, 200), -7);
+        // What comes at the deepest level is still made, ahead of the level that there is not.
         x = new WorldProver();
-        f = read(x, "a&b->c");
-        x.given(f);
-        read(x, "a" + "|a".repeat(1400));
-        read(x, "b" + "|a".repeat(1999 - 1407));
-        due("count(0)", x.count(0), 1999);
-        due("prove", x.prove(2, 2000), -7);
-        due("told(0)", x.told(0), 1);
-        due("count(0)", x.count(0), 2000);
-        due("formula(1999, 1)", x.formula(1999, 1), 3);
-        due("formula(1999, 2)", x.formula(1999, 2), 5);
+        x.given(read(x, "p&q->r"));
+        f = read(x, "a");
+        for (int i = 0; i < 199; i++) f = x.make(5, 1, f);
+        int before = x.count(0);
+        due("prove", x.prove(f, 2000), -7);
+        due("told(0)", x.told(0), 200);
+        due("count(0)", x.count(0), before + 2);
+    }
+
+    private static void provingWithoutRoom() {
+        promise = 12;
+        // b -> c, then a -> (b -> c)
+        withoutRoom("a&b->c", 2000, "");
+        withoutRoom("a&b->c", 1999, "b->c");
+        withoutRoom("a&b->c", 1998, "b->c a->(b->c)");
+        // a -> c, then b -> c
+        withoutRoom("a|b->c", 2000, "");
+        withoutRoom("a|b->c", 1999, "a->c");
+        withoutRoom("a|b->c", 1998, "a->c b->c");
+        // b -> c
+        withoutRoom("(a->b)->c", 2000, "");
+        withoutRoom("(a->b)->c", 1999, "b->c");
+    }
+
+    /** Searches for false where there are so many formulas; those of a text are made, and no others. */
+    private static void withoutRoom(String given, int formulas, String made) {
+        WorldProver x = new WorldProver();
+        x.given(read(x, given));
+        fill(x, formulas);
+        String[] names = made.isEmpty() ? new String[0] : made.split(" ");
+        boolean enough = given.startsWith("(") ? names.length == 1 : names.length == 2;
+        due("prove from " + given, x.prove(0, 2000), enough ? 0 : -7);
+        due("told(0)", x.told(0) > 1 ? 1 : 0, enough ? 1 : 0);
+        due("count(0)", x.count(0), formulas + names.length);
+        for (int i = 0; i < names.length; i++) due("read of " + names[i], read(x, names[i]), formulas + i);
+    }
+
+    /** What a search leaves behind must not take the room of later ones. */
+    private static void provingAgain() {
+        promise = 12;
+        WorldProver x = new WorldProver();
+        StringBuilder s = new StringBuilder("((a|b->c)->d)");
+        for (char c = 'e'; c < 'm'; c++) s.append("&((").append(c).append("->").append((char) (c + 1)).append(")->a|").append(c).append(")");
+        int hard = read(x, "(" + s + ")->z");
+        int f = read(x, "a|b->b|a");
+        for (int i = 0; i < 40; i++) {
+            due("prove", x.prove(hard, 2000), -6);
+            due("told(0)", x.told(0), 2000);
+        }
+        due("prove", x.prove(f, 2000), 1);
+        due("proof()", x.proof(), 26);
+        due("page", page(x), "L((a|b),C(h0,J(h1),I(h1)))");
+        int g = read(x, "(b|c)|a");
+        for (int i = 0; i < 450; i++) x.prove(g, 2000);
+        due("refute()", x.refute(), 5);
+        due("about(3, 0, 0)", x.about(3, 0, 0), 1);
     }
 
     private static void telling() {
@@ -781,6 +836,14 @@ public final class PromiseTests {
         due("12 of 13", x.classical(read(x, joined("&", 12) + "-> v0")), 1);
         due("12 of 24", x.classical(read(x, joined("&", 24) + "-> v0")), -4);
         due("the latest 1 of 24", x.classical(read(x, "v23|~v23")), 1);
+        due("the latest 12 of 24", x.classical(read(x, "~(" + joined("&", 24).substring(joined("&", 12).length() + 1) + ")")), 0);
+        x = new WorldProver();
+        read(x, "a->a");
+        fill(x, 1999);
+        due("make", x.make(3, 3, 3), 1999);
+        due("the last formula", x.classical(1999), 1);
+        due("the last formula", x.holds(0, 1999), 1);
+        due("the last but one", x.classical(1998), 0);
     }
 
     private static void refuting() {
@@ -826,6 +889,11 @@ public final class PromiseTests {
         due("prove", x.prove(read(x, thirty + "|(((p->q)->r)->s)"), 2000), 0);
         due("refute()", x.refute(), 60);
         due("about(0, 2, 0)", x.about(0, 2, 0), 60);
+        // The left parts are one chain, each with its right part behind all that is above its left part.
+        StringBuilder chain = new StringBuilder("-1:");
+        for (int w = 1; w < 30; w++) chain.append(" ").append(w - 1).append(":");
+        for (int w = 30; w < 59; w++) chain.append(" ").append(58 - w).append(":");
+        due("worlds", worlds(x), chain + " 58:20");
         due("prove", x.prove(read(x, "v0"), 2000), 0);
         due("refute()", x.refute(), 1);
         due("prove", x.prove(read(x, thirty + "|v0|v1"), 2000), 0);

@@ -156,7 +156,8 @@ public final class RandomRuns {
         else if (kind < 17) wide();
         else if (kind < 25) byHand();
         else if (kind < 55) proofs(1 + random.nextInt(12));
-        else if (kind < 60) manySteps();
+        else if (kind < 60) manySteps(kind == 59 ? 40 : 6);
+        else if (kind < 63) wideTerms();
         else mixed();
     }
 
@@ -295,6 +296,12 @@ public final class RandomRuns {
         prove(make(5, f, a), 2000);
         write(f);
         proof();
+        forget();
+        String[] late = {"n1&n2->a", "n1|n2->a", "(n1->n2)->n3", "n1&(n2&n3)", "n1|n2"};
+        given(read(late[random.nextInt(late.length)]));
+        f = a;
+        for (int i = 0; i < 196 + random.nextInt(5); i++) f = make(5, 1, f);
+        prove(f, 2000);
         same("refute", "refute()", x.refute(), y.refute());
         worlds();
     }
@@ -383,9 +390,9 @@ public final class RandomRuns {
         }
     }
 
-    private void manySteps() {
+    private void manySteps(int times) {
         variables = 3 + random.nextInt(2);
-        for (int i = 0; i < 6; i++) {
+        for (int i = 0; i < times; i++) {
             StringBuilder s = new StringBuilder();
             int rows = 2 + random.nextInt(6);
             for (int k = 0; k < rows; k++) {
@@ -401,6 +408,31 @@ public final class RandomRuns {
             if (n > 0) checkWritten(f, n);
             if (same("refute", "refute()", x.refute(), y.refute()) > 0) refuted(f);
         }
+    }
+
+    /** Terms with many parts, which have much that is no formula. */
+    private void wideTerms() {
+        variables = 4;
+        for (int i = 0; i < 10; i++) given(read(text(random.nextInt(3))));
+        for (int i = 0; i < 16; i++) {
+            String s = pairs(8 - random.nextInt(3));
+            feed("S(P(" + s + ",h" + random.nextInt(9) + "))");
+            check(random.nextInt(y.count(0)));
+            feed("S(P(" + s + ",T))");
+            check(1);
+        }
+        for (int i = 0; i < 16; i++) {
+            String s = pairs(2);
+            feed("A(L(true,h" + random.nextInt(12) + "),S(P(" + s + ",T)))");
+            check(y.formula(1, 0));
+            feed("A(A(L(a,L(b,P(h10,h11))),h0),h1)");
+            check(random.nextInt(y.count(0)));
+        }
+    }
+
+    private String pairs(int deep) {
+        if (deep == 0) return random.nextInt(9) == 0 ? "T" : random.nextInt(9) == 0 ? "L(a,h10)" : "h" + random.nextInt(10);
+        return "P(" + pairs(deep - 1) + "," + pairs(deep - 1) + ")";
     }
 
     private int some() { return random.nextInt(y.count(0) + 2) - 1; }
