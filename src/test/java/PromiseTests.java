@@ -578,15 +578,24 @@ public final class PromiseTests {
         due("told(0)", x.told(0), 200);
         due("told(2)", x.told(2), 200);
         due("prove, full ahead of spent", x.prove(f, 200), -7);
-        // What comes at the deepest level is still made, ahead of the level that there is not.
-        x = new WorldProver();
-        x.given(read(x, "p&q->r"));
-        f = read(x, "a");
-        for (int i = 0; i < 199; i++) f = x.make(5, 1, f);
+        provingDeepest("p&q->r", 199, 2, 2);
+        provingDeepest("p|q->r", 199, 3, 2);
+        provingDeepest("p&q", 199, 3, 0);
+        provingDeepest("(p->q)->r", 198, 2, 1);
+    }
+
+    /** What comes at the deepest level comes, and is made, ahead of the level that there is not. */
+    private static void provingDeepest(String given, int arrows, int most, int made) {
+        WorldProver x = new WorldProver();
+        x.given(read(x, given));
+        int f = read(x, "a");
+        for (int i = 0; i < arrows; i++) f = x.make(5, 1, f);
         int before = x.count(0);
         due("prove", x.prove(f, 2000), -7);
         due("told(0)", x.told(0), 200);
-        due("count(0)", x.count(0), before + 2);
+        due("told(1)", x.told(1), most);
+        due("told(2)", x.told(2), 200);
+        due("count(0)", x.count(0), before + made);
     }
 
     private static void provingWithoutRoom() {

@@ -414,8 +414,8 @@ public final class RandomRuns {
     private void wideTerms() {
         variables = 4;
         for (int i = 0; i < 10; i++) given(read(text(random.nextInt(3))));
-        for (int i = 0; i < 16; i++) {
-            String s = pairs(8 - random.nextInt(3));
+        for (int i = 0; i < 30; i++) {
+            String s = pairs(8 - random.nextInt(2));
             feed("S(P(" + s + ",h" + random.nextInt(9) + "))");
             check(random.nextInt(y.count(0)));
             feed("S(P(" + s + ",T))");
