@@ -928,13 +928,10 @@ public final class WorldProver {
         }
 
         private void putNumber(int number) {
-            int power = 1;
-            for (int i = 0; i < 9 && number / power >= 10; i++) {
-                power *= 10;
-            }
-            for (int i = 0; i < 10 && power > 0; i++) {
-                put('0' + number / power % 10);
-                power /= 10;
+            for (int power = 1000000000; power > 0; power /= 10) {
+                if (power == 1 || number >= power) {
+                    put('0' + number / power % 10);
+                }
             }
         }
 
@@ -1270,13 +1267,23 @@ public final class WorldProver {
             return depth < 0 ? outcome : FULL;
         }
 
+        private static void keep(int[] row, int d, int value) {
+            if (d >= 0 && d < row.length) {
+                row[d] = value;
+            }
+        }
+
+        private static int kept(int[] row, int d) {
+            return d >= 0 && d < row.length ? row[d] : NONE;
+        }
+
         private int provedBy(int term) {
             found = term;
             return PROVED;
         }
 
         private int waitFor(int d, int stage) {
-            stages[d] = stage;
+            keep(stages, d, stage);
             return PREMISE_LAID;
         }
 
@@ -1330,9 +1337,9 @@ public final class WorldProver {
         }
 
         private int beginBody(int d, int goal) {
-            bounds[d] = terms.hypothesis(0);
+            keep(bounds, d, terms.hypothesis(0));
             sequents.follow(d, NONE, formulas.secondOf(goal));
-            return waitIf(sequents.comes(d + 1, formulas.firstOf(goal), bounds[d]), d, BODY);
+            return waitIf(sequents.comes(d + 1, formulas.firstOf(goal), kept(bounds, d)), d, BODY);
         }
 
         private int variablesIn(int d) {
@@ -1379,9 +1386,9 @@ public final class WorldProver {
                     return waitIf(sequents.comes(next, formulas.firstOf(f), terms.one(Terms.FIRST, t))
                             && sequents.comes(next, formulas.secondOf(f), terms.one(Terms.SECOND, t)), d, SAME);
                 case OR:
-                    picks[d] = i;
-                    bounds[d] = terms.hypothesis(0);
-                    return waitIf(sequents.comes(next, formulas.firstOf(f), bounds[d]), d, CASE_LEFT);
+                    keep(picks, d, i);
+                    keep(bounds, d, terms.hypothesis(0));
+                    return waitIf(sequents.comes(next, formulas.firstOf(f), kept(bounds, d)), d, CASE_LEFT);
                 case IMPLIES:
                     return reduceImplication(d, f, t);
                 default:
@@ -1454,11 +1461,11 @@ public final class WorldProver {
             }
             int h = terms.hypothesis(0);
             int applied = terms.two(Terms.APPLY, sequents.termAt(d, i), terms.lambda(a, h, NONE));
-            picks[d] = i;
-            bounds[d] = terms.hypothesis(0);
+            keep(picks, d, i);
+            keep(bounds, d, terms.hypothesis(0));
             sequents.follow(d, i, b);
             return waitIf(sequents.comes(d + 1, weaker, terms.lambda(b, applied, h))
-                    && sequents.comes(d + 1, a, bounds[d]), d, NESTED);
+                    && sequents.comes(d + 1, a, kept(bounds, d)), d, NESTED);
         }
 
         /** Goes on at a level where the premise that was waited for has ended. */
@@ -1469,20 +1476,20 @@ public final class WorldProver {
             if (outcome != PROVED) {
                 return goOnFailed(d);
             }
-            switch (stages[d]) {
+            switch (kept(stages, d)) {
                 case BODY:
-                    return provedBy(terms.lambda(formulas.firstOf(sequents.goalOf(d)), found, bounds[d]));
+                    return provedBy(terms.lambda(formulas.firstOf(sequents.goalOf(d)), found, kept(bounds, d)));
                 case PAIR_FIRST:
-                    helds[d] = found;
+                    keep(helds, d, found);
                     sequents.follow(d, NONE, formulas.secondOf(sequents.goalOf(d)));
                     return waitFor(d, PAIR_SECOND);
                 case PAIR_SECOND:
-                    return provedBy(terms.two(Terms.PAIR, helds[d], found));
+                    return provedBy(terms.two(Terms.PAIR, kept(helds, d), found));
                 case CASE_LEFT:
                     return beginRightCase(d);
                 case CASE_RIGHT:
-                    int t = sequents.termAt(d, picks[d]);
-                    return provedBy(terms.add(Terms.CASES, t, helds[d], found, bounds[d]));
+                    int t = sequents.termAt(d, kept(picks, d));
+                    return provedBy(terms.add(Terms.CASES, t, kept(helds, d), found, kept(bounds, d)));
                 case GOAL_LEFT:
                     return provedBy(terms.one(Terms.LEFT_ONE, found));
                 case GOAL_RIGHT:
@@ -1495,23 +1502,23 @@ public final class WorldProver {
         }
 
         private int beginRightCase(int d) {
-            int f = sequents.formulaAt(d, picks[d]);
-            helds[d] = found;
-            sequents.follow(d, picks[d], sequents.goalOf(d));
-            return waitIf(sequents.comes(d + 1, formulas.secondOf(f), bounds[d]), d, CASE_RIGHT);
+            int f = sequents.formulaAt(d, kept(picks, d));
+            keep(helds, d, found);
+            sequents.follow(d, kept(picks, d), sequents.goalOf(d));
+            return waitIf(sequents.comes(d + 1, formulas.secondOf(f), kept(bounds, d)), d, CASE_RIGHT);
         }
 
         private int beginAfterNested(int d) {
-            int i = picks[d];
+            int i = kept(picks, d);
             int f = sequents.formulaAt(d, i);
-            int body = terms.lambda(formulas.firstOf(formulas.firstOf(f)), found, bounds[d]);
+            int body = terms.lambda(formulas.firstOf(formulas.firstOf(f)), found, kept(bounds, d));
             int applied = terms.two(Terms.APPLY, sequents.termAt(d, i), body);
             sequents.follow(d, i, sequents.goalOf(d));
             return waitIf(sequents.comes(d + 1, formulas.secondOf(f), applied), d, SAME);
         }
 
         private int goOnFailed(int d) {
-            switch (stages[d]) {
+            switch (kept(stages, d)) {
                 case GOAL_LEFT:
                     refutations.adopt(d, found);
                     sequents.follow(d, NONE, formulas.secondOf(sequents.goalOf(d)));
@@ -1521,7 +1528,7 @@ public final class WorldProver {
                     return tryNested(d, 0);
                 case NESTED:
                     refutations.adopt(d, found);
-                    return tryNested(d, picks[d] + 1);
+                    return tryNested(d, kept(picks, d) + 1);
                 default:
                     return FAILED;
             }
