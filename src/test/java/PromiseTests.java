@@ -1,9 +1,5 @@
 /** For each promise of the document: ordinary calls, its edges, and wrong ones, with answers worked out by hand. */
 public final class PromiseTests {
-    private static int wrong = 0;
-    private static int asked = 0;
-    private static int promise = 0;
-
     public static void main(String[] args) {
         newObject();
         feeding();
@@ -38,62 +34,45 @@ public final class PromiseTests {
         forcing();
         asking();
         holding();
-        System.out.println("promises: " + (asked - wrong) + " as due, " + wrong + " not");
-        if (wrong != 0) System.exit(1);
+        Dues.end("promises", 1, 22);
     }
 
-    private static void due(String call, long got, long want) {
-        asked++;
-        if (got != want) {
-            wrong++;
-            System.out.println("promise " + promise + ": " + call + " answered " + got + ", due is " + want);
-        }
+    private static void due(String call, long got, long want) { Dues.due(call, got, want); }
+
+    private static void due(String call, String got, String want) { Dues.due(call, got, want); }
+
+    private static int read(Asker x, String text) {
+        return x.read(text);
     }
 
-    private static void due(String call, String got, String want) {
-        asked++;
-        if (!got.equals(want)) {
-            wrong++;
-            System.out.println("promise " + promise + ": " + call + " wrote " + got + ", due is " + want);
-        }
-    }
-
-    private static int feed(WorldProver x, String text) {
-        int n = x.feed(0, 0);
-        for (int i = 0; i < text.length(); i++) n = x.feed(text.charAt(i), 1);
-        return n;
-    }
-
-    private static int read(WorldProver x, String text) {
-        feed(x, text);
-        return x.read();
-    }
-
-    private static int check(WorldProver x, String text, int f) {
-        feed(x, text);
-        return x.check(f);
+    private static int check(Asker x, String text, int f) {
+        return x.check(text, f);
     }
 
     private static void fault(String text, int number, int place) {
-        WorldProver x = new WorldProver();
+        Asker x = new Asker();
         due("read of " + text, read(x, text), -10 - number);
         due("place in " + text, x.place(), place);
     }
 
-    private static void faultOfTerm(WorldProver x, String text, int number, int place) {
+    private static void faultOfTerm(Asker x, String text, int number, int place) {
         due("check of " + text, check(x, text, 1), -10 - number);
         due("place in " + text, x.place(), place);
     }
 
-    private static String page(WorldProver x) {
+    private static String page(Asker x) {
         StringBuilder s = new StringBuilder();
-        for (int i = 0; x.octet(i) >= 0; i++) s.append((char) x.octet(i));
+        int c = x.octet(0);
+        for (int i = 1; c >= 0; i++) {
+            s.append((char) c);
+            c = x.octet(i);
+        }
         return s.toString();
     }
 
     /** Proves a text from others, told by its steps, the most in LEFT, its depth and its proof. */
-    private static WorldProver proved(String text, String proof, int steps, int most, int deep, String... givens) {
-        WorldProver x = new WorldProver();
+    private static Asker proved(String text, String proof, int steps, int most, int deep, String... givens) {
+        Asker x = new Asker();
         for (String g : givens) x.given(read(x, g));
         int f = read(x, text);
         due("prove of " + text, x.prove(f, 2000), 1);
@@ -107,8 +86,8 @@ public final class PromiseTests {
         return x;
     }
 
-    private static WorldProver failed(String text, int steps, int most, int deep, String... givens) {
-        WorldProver x = new WorldProver();
+    private static Asker failed(String text, int steps, int most, int deep, String... givens) {
+        Asker x = new Asker();
         for (String g : givens) x.given(read(x, g));
         int f = read(x, text);
         due("prove of " + text, x.prove(f, 2000), 0);
@@ -119,19 +98,11 @@ public final class PromiseTests {
         return x;
     }
 
-    /** The worlds as texts: each one's parent and the variables that are forced there. */
-    private static String worlds(WorldProver x) {
-        StringBuilder s = new StringBuilder();
-        for (int w = 0; w < x.count(3); w++) {
-            s.append(w == 0 ? "" : " ").append(x.about(w, 0, 0)).append(":");
-            for (int v = 0; v < x.count(1); v++) s.append(x.about(w, 1, v) == 1 ? "" + v : "");
-        }
-        return s.toString();
-    }
+    private static String worlds(Asker x) { return x.worlds(); }
 
     private static void newObject() {
-        promise = 1;
-        WorldProver x = new WorldProver();
+        Dues.of(1, "new object");
+        Asker x = new Asker();
         due("count(0)", x.count(0), 2);
         due("count(1)", x.count(1), 0);
         due("count(2)", x.count(2), 0);
@@ -150,8 +121,8 @@ public final class PromiseTests {
     }
 
     private static void feeding() {
-        promise = 2;
-        WorldProver x = new WorldProver();
+        Dues.of(2, "feeding");
+        Asker x = new Asker();
         due("feed(a->b, 4)", x.feed(0x7a7a612d3e62L, 4), 4);
         due("read()", x.read(), 4);
         due("feed(.., 9)", x.feed(1, 9), -2);
@@ -175,8 +146,8 @@ public final class PromiseTests {
     }
 
     private static void readingNumbers() {
-        promise = 3;
-        WorldProver x = new WorldProver();
+        Dues.of(3, "reading numbers");
+        Asker x = new Asker();
         due("read", read(x, "a & b | c -> d <-> e"), 12);
         int[][] due = {{2, 0, 0}, {2, 1, 0}, {3, 2, 3}, {2, 2, 0}, {4, 4, 5}, {2, 3, 0}, {5, 6, 7}, {2, 4, 0},
             {5, 8, 9}, {5, 9, 8}, {3, 10, 11}};
@@ -185,7 +156,7 @@ public final class PromiseTests {
         }
         due("read again", read(x, "((a&b)|c->d)<->e"), 12);
         due("count(0)", x.count(0), 13);
-        x = new WorldProver();
+        x = new Asker();
         due("read", read(x, "a->b->a"), 5);
         due("formula(5, 2)", x.formula(5, 2), 4);
         due("read", read(x, "a|b|a"), 7);
@@ -210,7 +181,7 @@ public final class PromiseTests {
     }
 
     private static void readingFaults() {
-        promise = 3;
+        Dues.of(3, "reading faults");
         fault("", 2, 0);
         fault("   ", 2, 3);
         fault("a b", 2, 2);
@@ -247,19 +218,19 @@ public final class PromiseTests {
 
     /** What was made before a fault stays. */
     private static void made(String text, int formulas) {
-        WorldProver x = new WorldProver();
+        Asker x = new Asker();
         read(x, text);
         due("count(0) after " + text, x.count(0), formulas);
     }
 
     private static void readingOpen() {
-        promise = 3;
+        Dues.of(3, "reading open");
         String[] openers = {"~", "(", "a->", "true<->("};
         int[] most = {40, 40, 40, 20};
         int[] places = {40, 40, 121, 164};
         for (int i = 0; i < openers.length; i++) {
             String close = openers[i].endsWith("(") ? ")" : "";
-            WorldProver x = new WorldProver();
+            Asker x = new Asker();
             due("open is enough", read(x, openers[i].repeat(most[i]) + "a" + close.repeat(most[i])) > 1 ? 1 : 0, 1);
             fault(openers[i].repeat(most[i] + 1) + "a", 3, places[i]);
         }
@@ -269,7 +240,7 @@ public final class PromiseTests {
         fault("(".repeat(40) + "a<->b", 3, 41);
         fault("(".repeat(40) + "a ~", 2, 42);
         fault("~".repeat(41), 3, 40);
-        WorldProver x = new WorldProver();
+        Asker x = new Asker();
         due("closed is not open", read(x, "(a)&~a&".repeat(200) + "a") > 0 ? 1 : 0, 1);
         due("an arrow closes", read(x, "(a->a)&".repeat(100) + "a") > 0 ? 1 : 0, 1);
         due("<-> closes", read(x, "(a<->a)&".repeat(100) + "a") > 0 ? 1 : 0, 1);
@@ -279,8 +250,8 @@ public final class PromiseTests {
     }
 
     private static void readingRoom() {
-        promise = 3;
-        WorldProver x = new WorldProver();
+        Dues.of(3, "reading room");
+        Asker x = new Asker();
         StringBuilder s = new StringBuilder("v0");
         for (int i = 1; i < 24; i++) s.append("&v").append(i);
         due("24 variables", read(x, s.toString()), 48);
@@ -309,28 +280,23 @@ public final class PromiseTests {
         due("formula(1999, 2)", x.formula(1999, 2), 1);
     }
 
-    private static void room(WorldProver x, String text, int place) {
+    private static void room(Asker x, String text, int place) {
         due("read of " + text, read(x, text), -15);
         due("place in " + text, x.place(), place);
     }
 
     /** With so many formulas; the variable a is 2, a&a is 3. */
-    private static WorldProver full(int formulas) {
-        WorldProver x = new WorldProver();
+    private static Asker full(int formulas) {
+        Asker x = new Asker();
         fill(x, formulas);
         return x;
     }
 
-    private static void fill(WorldProver x, int formulas) {
-        read(x, "a");
-        read(x, "a" + "&a".repeat(1400));
-        read(x, "a" + "|a".repeat(formulas - x.count(0)));
-        due("count(0)", x.count(0), formulas);
-    }
+    private static void fill(Asker x, int formulas) { due("count(0)", x.fill(formulas), formulas); }
 
     private static void places() {
-        promise = 4;
-        WorldProver x = new WorldProver();
+        Dues.of(4, "places");
+        Asker x = new Asker();
         due("place()", x.place(), -1);
         read(x, "a ?");
         due("place()", x.place(), 2);
@@ -345,8 +311,8 @@ public final class PromiseTests {
     }
 
     private static void counts() {
-        promise = 5;
-        WorldProver x = new WorldProver();
+        Dues.of(5, "counts");
+        Asker x = new Asker();
         read(x, "a|b");
         x.given(2);
         x.given(2);
@@ -360,8 +326,8 @@ public final class PromiseTests {
     }
 
     private static void formulas() {
-        promise = 6;
-        WorldProver x = new WorldProver();
+        Dues.of(6, "formulas");
+        Asker x = new Asker();
         read(x, "a|b");
         int[][] due = {{0, 0, 0}, {1, 0, 0}, {2, 0, 0}, {2, 1, 0}, {4, 2, 3}};
         for (int f = 0; f < 5; f++) {
@@ -375,8 +341,8 @@ public final class PromiseTests {
     }
 
     private static void making() {
-        promise = 7;
-        WorldProver x = new WorldProver();
+        Dues.of(7, "making");
+        Asker x = new Asker();
         read(x, "a|b");
         due("make(4, 2, 3)", x.make(4, 2, 3), 4);
         due("make(3, 2, 3)", x.make(3, 2, 3), 5);
@@ -398,7 +364,7 @@ public final class PromiseTests {
     }
 
     /** A formula of 8000 bytes, or of 8001. */
-    private static int longOne(WorldProver x, boolean tooLong) {
+    private static int longOne(Asker x, boolean tooLong) {
         int a = read(x, "a");
         int f = x.make(3, a, tooLong ? 0 : 1);
         int[] doubled = new int[11];
@@ -410,8 +376,8 @@ public final class PromiseTests {
     }
 
     private static void writing() {
-        promise = 8;
-        WorldProver x = new WorldProver();
+        Dues.of(8, "writing");
+        Asker x = new Asker();
         int f = read(x, "~a | true & abc123 -> false <-> a");
         String written = "(((((a->false)|(true&abc123))->false)->a)&(a->(((a->false)|(true&abc123))->false)))";
         due("write", x.write(f), written.length());
@@ -429,17 +395,18 @@ public final class PromiseTests {
         due("write(1)", x.write(1), 4);
         due("write of 8001", x.write(longOne(x, true)), -4);
         due("page", page(x), "true");
+        x = new Asker();
         f = 1;
         for (int i = 0; i < 400; i++) f = x.make(5, f, f);
         due("write of more than can be counted", x.write(f), -4);
-        f = 1;
-        for (int i = 0; i < 1140; i++) f = x.make(4, f, 1);
-        due("write of a deep one", x.write(f), 7984);
+        x = new Asker();
+        f = x.read("a" + "|a".repeat(1499));
+        due("write of a deep one", x.write(f), 1 + 4 * 1499);
     }
 
     private static void octets() {
-        promise = 9;
-        WorldProver x = new WorldProver();
+        Dues.of(9, "octets");
+        Asker x = new Asker();
         read(x, "a->b");
         due("octet(0)", x.octet(0), -1);
         due("write(4)", x.write(4), 6);
@@ -455,8 +422,8 @@ public final class PromiseTests {
     }
 
     private static void giving() {
-        promise = 10;
-        WorldProver x = new WorldProver();
+        Dues.of(10, "giving");
+        Asker x = new Asker();
         due("given(2)", x.given(2), -1);
         due("given(-1)", x.given(-1), -1);
         for (int i = 1; i <= 20; i++) due("given(1)", x.given(1), i);
@@ -469,8 +436,8 @@ public final class PromiseTests {
     }
 
     private static void forgetting() {
-        promise = 11;
-        WorldProver x = new WorldProver();
+        Dues.of(11, "forgetting");
+        Asker x = new Asker();
         due("forget()", x.forget(), 0);
         int a = read(x, "a");
         x.given(a);
@@ -485,7 +452,7 @@ public final class PromiseTests {
     }
 
     private static void proving() {
-        promise = 12;
+        Dues.of(12, "proving");
         proved("a->a", "L(a,h0)", 2, 1, 2);
         proved("true", "T", 1, 0, 1);
         proved("true", "h0", 1, 1, 1, "true");
@@ -506,7 +473,7 @@ public final class PromiseTests {
         failed("a&b", 3, 1, 2, "a");
         failed("a|b", 3, 0, 2);
         failed("((a->b)->a)->a", 3, 2, 3);
-        WorldProver x = new WorldProver();
+        Asker x = new Asker();
         x.given(read(x, "a&b->c"));
         due("count(0)", x.count(0), 7);
         due("prove(5, 99)", x.prove(5, 99), 0);
@@ -518,7 +485,7 @@ public final class PromiseTests {
     }
 
     private static void provingNested() {
-        promise = 12;
+        Dues.of(12, "proving nested");
         proved("b->c", "L(b,A(h0,L(a,h1)))", 4, 3, 3, "(a->b)->c");
         proved("~~(a|~a)",
             "L(((a|(a->false))->false),A(L((a->false),A(h0,J(h1))),L(a,A(L(a,A(h0,I(h2))),h1))))", 6, 3, 5);
@@ -530,8 +497,8 @@ public final class PromiseTests {
     }
 
     private static void provingRefused() {
-        promise = 12;
-        WorldProver x = new WorldProver();
+        Dues.of(12, "proving refused");
+        Asker x = new Asker();
         int f = read(x, "a->a");
         due("prove(-1, 5)", x.prove(-1, 5), -1);
         due("prove(4, 5)", x.prove(4, 5), -1);
@@ -556,16 +523,16 @@ public final class PromiseTests {
     }
 
     private static void provingFull() {
-        promise = 12;
+        Dues.of(12, "proving full");
         failed("z", 60, 60, 60, row(60));
-        WorldProver x = new WorldProver();
+        Asker x = new Asker();
         x.given(read(x, row(61)));
         due("prove", x.prove(read(x, "z"), 2000), -7);
         due("told(0)", x.told(0), 60);
         due("told(1)", x.told(1), 60);
         due("told(2)", x.told(2), 60);
         due("told(3)", x.told(3), -7);
-        x = new WorldProver();
+        x = new Asker();
         int f = read(x, "a");
         for (int i = 0; i < 198; i++) f = x.make(5, 1, f);
         due("prove", x.prove(f, 2000), 0);
@@ -586,7 +553,7 @@ public final class PromiseTests {
 
     /** What comes at the deepest level comes, and is made, ahead of the level that there is not. */
     private static void provingDeepest(String given, int arrows, int most, int made) {
-        WorldProver x = new WorldProver();
+        Asker x = new Asker();
         x.given(read(x, given));
         int f = read(x, "a");
         for (int i = 0; i < arrows; i++) f = x.make(5, 1, f);
@@ -599,7 +566,7 @@ public final class PromiseTests {
     }
 
     private static void provingWithoutRoom() {
-        promise = 12;
+        Dues.of(12, "proving without room");
         // b -> c, then a -> (b -> c)
         withoutRoom("a&b->c", 2000, "");
         withoutRoom("a&b->c", 1999, "b->c");
@@ -615,9 +582,10 @@ public final class PromiseTests {
 
     /** Searches for false where there are so many formulas; those of a text are made, and no others. */
     private static void withoutRoom(String given, int formulas, String made) {
-        WorldProver x = new WorldProver();
-        x.given(read(x, given));
+        Asker x = new Asker();
+        int f = read(x, given);
         fill(x, formulas);
+        x.given(f);
         String[] names = made.isEmpty() ? new String[0] : made.split(" ");
         boolean enough = given.startsWith("(") ? names.length == 1 : names.length == 2;
         due("prove from " + given, x.prove(0, 2000), enough ? 0 : -7);
@@ -628,8 +596,8 @@ public final class PromiseTests {
 
     /** What a search leaves behind must not take the room of later ones. */
     private static void provingAgain() {
-        promise = 12;
-        WorldProver x = new WorldProver();
+        Dues.of(12, "proving again");
+        Asker x = new Asker();
         StringBuilder s = new StringBuilder("((a|b->c)->d)");
         for (char c = 'e'; c < 'm'; c++) s.append("&((").append(c).append("->").append((char) (c + 1)).append(")->a|").append(c).append(")");
         int hard = read(x, "(" + s + ")->z");
@@ -642,14 +610,14 @@ public final class PromiseTests {
         due("proof()", x.proof(), 26);
         due("page", page(x), "L((a|b),C(h0,J(h1),I(h1)))");
         int g = read(x, "(b|c)|a");
-        for (int i = 0; i < 450; i++) x.prove(g, 2000);
+        for (int i = 0; i < 300; i++) x.prove(g, 2000);
         due("refute()", x.refute(), 5);
         due("about(3, 0, 0)", x.about(3, 0, 0), 1);
     }
 
     private static void telling() {
-        promise = 13;
-        WorldProver x = new WorldProver();
+        Dues.of(13, "telling");
+        Asker x = new Asker();
         due("told(0)", x.told(0), 0);
         due("told(1)", x.told(1), 0);
         due("told(2)", x.told(2), 0);
@@ -678,8 +646,8 @@ public final class PromiseTests {
     }
 
     private static void proofs() {
-        promise = 14;
-        WorldProver x = new WorldProver();
+        Dues.of(14, "proofs");
+        Asker x = new Asker();
         due("proof()", x.proof(), -3);
         int f = read(x, "a->a");
         x.given(2);
@@ -701,22 +669,22 @@ public final class PromiseTests {
         due("page", page(x), "true");
         due("told(3)", x.told(3), 1);
         // 10 given and more: numbers of two signs.
-        x = new WorldProver();
+        x = new Asker();
         for (int i = 0; i < 11; i++) x.given(1);
         x.prove(read(x, "a->b->a"), 9);
         x.proof();
         due("page", page(x), "L(a,L(b,h11))");
-        x = new WorldProver();
+        x = new Asker();
         int deep = read(x, "a->b->a&b");
         for (int i = 0; i < 120; i++) deep = x.make(5, 1, deep);
         due("prove", x.prove(deep, 2000), 1);
-        x.proof();
-        due("page", page(x), "L(true,".repeat(120) + "L(a,L(b,P(h120,h121)))" + ")".repeat(120));
+        due("proof()", x.proof(), 7 * 120 + 22 + 120);
+        for (int i = 0; i < 22; i++) due("octet", x.octet(840 + i), "L(a,L(b,P(h120,h121)))".charAt(i));
     }
 
     private static void checking() {
-        promise = 15;
-        WorldProver x = new WorldProver();
+        Dues.of(15, "checking");
+        Asker x = new Asker();
         int f = read(x, "a->a");
         due("check", check(x, "L(a,h0)", f), 1);
         due("check", check(x, " L (\ta ,\nh0 )\r", f), 1);
@@ -727,7 +695,7 @@ public final class PromiseTests {
         due("check", check(x, "T", 0), 0);
         due("check(-1)", x.check(-1), -1);
         due("check(2000)", x.check(2000), -1);
-        x = new WorldProver();
+        x = new Asker();
         x.given(read(x, "a|b"));
         x.given(read(x, "(a->c)&(b->c)"));
         x.given(0);
@@ -749,8 +717,8 @@ public final class PromiseTests {
     }
 
     private static void checkingFaults() {
-        promise = 15;
-        WorldProver x = new WorldProver();
+        Dues.of(15, "checking faults");
+        Asker x = new Asker();
         faultOfTerm(x, "", 2, 0);
         faultOfTerm(x, "h0", 6, 0);
         faultOfTerm(x, "L(a,h1)", 6, 4);
@@ -786,8 +754,9 @@ public final class PromiseTests {
         faultOfTerm(x, "F(".repeat(39) + "L(a->a,T", 3, 81);
         due("40 open", check(x, "F(".repeat(40) + "T" + ")".repeat(40), 1), 0);
         due("closed letters", check(x, "P(F(T),".repeat(39) + "T" + ")".repeat(39), 1), 0);
+        x = new Asker();
         StringBuilder s = new StringBuilder("L(v0");
-        for (int i = 1; i < 23; i++) s.append("&v").append(i);
+        for (int i = 1; i < 24; i++) s.append("&v").append(i);
         due("24 variables", check(x, s + ",T)", 1), 0);
         faultOfTerm(x, "L(w,T)", 4, 2);
         x = full(2000);
@@ -797,8 +766,8 @@ public final class PromiseTests {
     }
 
     private static void checkingUnmade() {
-        promise = 15;
-        WorldProver x = new WorldProver();
+        Dues.of(15, "checking unmade");
+        Asker x = new Asker();
         due("check", check(x, "F(P(T,P(L(a,h0),L(b&a,F(h0)))))", 1), 1);
         due("count(0)", x.count(0), 5);
         int f = read(x, "a->a");
@@ -823,8 +792,8 @@ public final class PromiseTests {
     }
 
     private static void assignments() {
-        promise = 16;
-        WorldProver x = new WorldProver();
+        Dues.of(16, "assignments");
+        Asker x = new Asker();
         due("classical(0)", x.classical(0), 0);
         due("classical(1)", x.classical(1), 1);
         due("classical(2)", x.classical(2), -1);
@@ -834,19 +803,19 @@ public final class PromiseTests {
         due("a variable", x.classical(read(x, "a")), 0);
         due("b->a", x.classical(read(x, "b->a")), 0);
         for (int n = 1; n <= 12; n++) {
-            x = new WorldProver();
+            x = new Asker();
             due("all of " + n, x.classical(read(x, joined("&", n) + " -> v" + (n - 1))), 1);
             due("only 0 .. 0 fails", x.classical(read(x, joined("|", n))), 0);
             due("only 1 .. 1 fails", x.classical(read(x, "~(" + joined("&", n) + ")")), 0);
             due("none fails", x.classical(read(x, "~(" + joined("&", n) + ")|" + joined("&", n))), 1);
         }
-        x = new WorldProver();
+        x = new Asker();
         due("13", x.classical(read(x, joined("&", 13) + "-> v0")), -4);
         due("12 of 13", x.classical(read(x, joined("&", 12) + "-> v0")), 1);
         due("12 of 24", x.classical(read(x, joined("&", 24) + "-> v0")), -4);
         due("the latest 1 of 24", x.classical(read(x, "v23|~v23")), 1);
         due("the latest 12 of 24", x.classical(read(x, "~(" + joined("&", 24).substring(joined("&", 12).length() + 1) + ")")), 0);
-        x = new WorldProver();
+        x = new Asker();
         read(x, "a->a");
         fill(x, 1999);
         due("make", x.make(3, 3, 3), 1999);
@@ -856,8 +825,8 @@ public final class PromiseTests {
     }
 
     private static void refuting() {
-        promise = 17;
-        WorldProver x = failed("(b|c)|a", 5, 0, 3);
+        Dues.of(17, "refuting");
+        Asker x = failed("(b|c)|a", 5, 0, 3);
         due("refute()", x.refute(), 5);
         due("worlds", worlds(x), "-1: 0: 1: 1: 0:");
         x = failed("a|(b|c)", 5, 0, 3);
@@ -892,27 +861,27 @@ public final class PromiseTests {
     }
 
     private static void refutingRoom() {
-        promise = 17;
-        WorldProver x = new WorldProver();
-        String thirty = joined("|", 20) + "|" + joined("|", 9);
-        due("prove", x.prove(read(x, thirty + "|(((p->q)->r)->s)"), 2000), 0);
+        Dues.of(17, "refuting room");
+        Asker x = new Asker();
+        String some = "a" + "|a".repeat(28);
+        due("prove", x.prove(read(x, some + "|(((p->q)->r)->s)"), 2000), 0);
         due("refute()", x.refute(), 60);
         due("about(0, 2, 0)", x.about(0, 2, 0), 60);
         // The left parts are one chain, each with its right part behind all that is above its left part.
         StringBuilder chain = new StringBuilder("-1:");
         for (int w = 1; w < 30; w++) chain.append(" ").append(w - 1).append(":");
         for (int w = 30; w < 59; w++) chain.append(" ").append(58 - w).append(":");
-        due("worlds", worlds(x), chain + " 58:20");
-        due("prove", x.prove(read(x, "v0"), 2000), 0);
+        due("worlds", worlds(x), chain + " 58:1");
+        due("prove", x.prove(read(x, "a"), 2000), 0);
         due("refute()", x.refute(), 1);
-        due("prove", x.prove(read(x, thirty + "|v0|v1"), 2000), 0);
+        due("prove", x.prove(read(x, some + "|a|a"), 2000), 0);
         due("refute()", x.refute(), -4);
         due("count(3)", x.count(3), 1);
     }
 
     private static void clearing() {
-        promise = 18;
-        WorldProver x = new WorldProver();
+        Dues.of(18, "clearing");
+        Asker x = new Asker();
         read(x, "a");
         due("clear()", x.clear(), 1);
         x.world(0);
@@ -924,8 +893,8 @@ public final class PromiseTests {
     }
 
     private static void growing() {
-        promise = 19;
-        WorldProver x = new WorldProver();
+        Dues.of(19, "growing");
+        Asker x = new Asker();
         read(x, "a|b");
         due("world(1)", x.world(1), -1);
         due("world(-1)", x.world(-1), -1);
@@ -941,8 +910,8 @@ public final class PromiseTests {
     }
 
     private static void forcing() {
-        promise = 20;
-        WorldProver x = new WorldProver();
+        Dues.of(20, "forcing");
+        Asker x = new Asker();
         due("force(0, 0)", x.force(0, 0), -1);
         read(x, "a|b");
         x.world(0);
@@ -962,8 +931,8 @@ public final class PromiseTests {
     }
 
     private static void asking() {
-        promise = 21;
-        WorldProver x = new WorldProver();
+        Dues.of(21, "asking");
+        Asker x = new Asker();
         read(x, "a");
         x.world(0);
         x.world(1);
@@ -989,8 +958,8 @@ public final class PromiseTests {
     }
 
     private static void holding() {
-        promise = 22;
-        WorldProver x = new WorldProver();
+        Dues.of(22, "holding");
+        Asker x = new Asker();
         read(x, "a|b");
         x.world(0);
         x.world(0);
@@ -1021,7 +990,7 @@ public final class PromiseTests {
         due("holds in the 60th", x.holds(59, read(x, "a&b")), 1);
     }
 
-    private static void held(WorldProver x, String text, String where) {
+    private static void held(Asker x, String text, String where) {
         int f = read(x, text);
         for (int w = 0; w < where.length(); w++) {
             due("holds(" + w + ", " + text + ")", x.holds(w, f), where.charAt(w) - '0');

@@ -158,6 +158,7 @@ public final class RandomRuns {
         else if (kind < 55) proofs(1 + random.nextInt(12));
         else if (kind < 60) manySteps(kind == 59 ? 40 : 6);
         else if (kind < 63) wideTerms();
+        else if (kind < 66) edges();
         else mixed();
     }
 
@@ -433,6 +434,49 @@ public final class RandomRuns {
     private String pairs(int deep) {
         if (deep == 0) return random.nextInt(9) == 0 ? "T" : random.nextInt(9) == 0 ? "L(a,h10)" : "h" + random.nextInt(10);
         return "P(" + pairs(deep - 1) + "," + pairs(deep - 1) + ")";
+    }
+
+    private static final int[] EDGES = {
+        Integer.MIN_VALUE, Integer.MIN_VALUE + 1, -2001, -2, -1, 0, 1, 2, 3, 4, 5, 6, 7, 8, 9, 11, 12, 13, 19, 20, 21, 23, 24, 25, 31,
+        32, 33, 59, 60, 61, 63, 64, 65, 199, 200, 201, 1998, 1999, 2000, 2001, 2999, 3000, 3001, 7999, 8000, 8001,
+        Integer.MAX_VALUE - 1, Integer.MAX_VALUE
+    };
+
+    private int edge() { return random.nextInt(3) == 0 ? some() : EDGES[random.nextInt(EDGES.length)]; }
+
+    /** Every call with arguments at and beyond the edges, where there is little and where there is much. */
+    private void edges() {
+        if (random.nextInt(3) == 0) full();
+        if (random.nextInt(3) == 0) byHand();
+        read(text(random.nextInt(6)));
+        for (int i = 0; i < 60; i++) {
+            int a = edge();
+            int b = edge();
+            int c = edge();
+            same("feed", "feed(.., " + a + ")", x.feed(0x612d3e6126616161L, a), y.feed(0x612d3e6126616161L, a));
+            same("count", "count(" + a + ")", x.count(a), y.count(a));
+            same("formula", "formula(" + a + ", " + b + ")", x.formula(a, b), y.formula(a, b));
+            make(random.nextBoolean() ? 3 + random.nextInt(3) : a, b, c);
+            write(a);
+            same("octet", "octet(" + b + ")", x.octet(b), y.octet(b));
+            given(a);
+            prove(a, b);
+            same("told", "told(" + a + ")", x.told(a), y.told(a));
+            proof();
+            check(a);
+            classical(b);
+            same("refute", "refute()", x.refute(), y.refute());
+            same("world", "world(" + a + ")", x.world(a), y.world(a));
+            same("force", "force(" + a + ", " + b + ")", x.force(a, b), y.force(a, b));
+            same("about", "about(" + a + ", " + b + ", " + c + ")", x.about(a, b, c), y.about(a, b, c));
+            holds(a, b);
+            if (random.nextInt(20) == 0) forget();
+            if (random.nextInt(20) == 0) same("clear", "clear()", x.clear(), y.clear());
+            same("read", "read()", x.read(), y.read());
+            same("place", "place()", x.place(), y.place());
+        }
+        counts();
+        worlds();
     }
 
     private int some() { return random.nextInt(y.count(0) + 2) - 1; }
