@@ -239,8 +239,8 @@ public final class WorldProver {
             firsts = new int[room];
             seconds = new int[room];
             nexts = new int[room];
-            add(FALSE, 0, 0);
-            add(TRUE, 0, 0);
+            joined(FALSE, 0, 0);
+            joined(TRUE, 0, 0);
         }
 
         int many() {
@@ -272,8 +272,19 @@ public final class WorldProver {
         }
 
         int find(int kind, int a, int b) {
-            int f = heads[chainOf(kind, a, b)] - 1;
-            for (int seen = 0; seen < many && has(f); seen++) {
+            return findIn(chainOf(kind, a, b), kind, a, b);
+        }
+
+        /** The FORMULA, made if need be; NONE if there is no room for it. */
+        int joined(int kind, int a, int b) {
+            int chain = chainOf(kind, a, b);
+            int f = findIn(chain, kind, a, b);
+            return f >= 0 ? f : addTo(chain, kind, a, b);
+        }
+
+        private int findIn(int chain, int kind, int a, int b) {
+            int f = heads[chain & (CHAINS - 1)] - 1;
+            for (int seen = 0; seen < many && f >= 0 && f < room; seen++) {
                 if (kinds[f] == kind && firsts[f] == a && seconds[f] == b) {
                     return f;
                 }
@@ -282,17 +293,11 @@ public final class WorldProver {
             return NONE;
         }
 
-        /** The FORMULA, made if need be; NONE if there is no room for it. */
-        int joined(int kind, int a, int b) {
-            int f = find(kind, a, b);
-            return f >= 0 ? f : add(kind, a, b);
-        }
-
-        private int add(int kind, int a, int b) {
+        private int addTo(int number, int kind, int a, int b) {
             if (many < 0 || many >= room) {
                 return NONE;
             }
-            int chain = chainOf(kind, a, b);
+            int chain = number & (CHAINS - 1);
             int f = many;
             kinds[f] = kind;
             firsts[f] = a;
@@ -335,7 +340,7 @@ public final class WorldProver {
             if (variables < 0 || variables >= MOST_VARIABLES) {
                 return NONE;
             }
-            int f = add(VARIABLE, variables, 0);
+            int f = joined(VARIABLE, variables, 0);
             if (f >= 0) {
                 names[variables] = name;
                 variables++;
@@ -396,8 +401,17 @@ public final class WorldProver {
 
         int look() {
             if (!looked) {
-                scan();
                 looked = true;
+                start = end;
+                while (start < length && isBlank(byteAt(start))) {
+                    start++;
+                }
+                int sign = byteAt(start);
+                if (isLetter(sign)) {
+                    scanName();
+                } else {
+                    scanSign(sign);
+                }
             }
             return kind;
         }
@@ -432,16 +446,9 @@ public final class WorldProver {
             return number;
         }
 
-        private void scan() {
-            start = end;
-            for (int i = end; i < length && isBlank(byteAt(i)); i++) {
-                start = i + 1;
-            }
-            int sign = byteAt(start);
+        private void scanSign(int sign) {
             if (sign < 0) {
                 token(END, 0);
-            } else if (isLetter(sign)) {
-                scanName();
             } else if (sign == '-' && byteAt(start + 1) == '>') {
                 token(ARROW, 2);
             } else if (sign == '<' && byteAt(start + 1) == '-' && byteAt(start + 2) == '>') {
@@ -456,9 +463,11 @@ public final class WorldProver {
         private void scanName() {
             int signs = 0;
             long packed = 0L;
-            for (int i = start; i < length && isOfName(byteAt(i)); i++) {
-                packed = (packed << 8) | byteAt(i);
+            int sign = byteAt(start);
+            while (signs <= MOST_SIGNS && (isLetter(sign) || isDigit(sign))) {
+                packed = (packed << 8) | sign;
                 signs++;
+                sign = byteAt(start + signs);
             }
             name = packed;
             if (signs > MOST_SIGNS) {
@@ -489,9 +498,6 @@ public final class WorldProver {
             return sign >= '0' && sign <= '9';
         }
 
-        private static boolean isOfName(int sign) {
-            return isLetter(sign) || isDigit(sign);
-        }
     }
 
     /**
@@ -702,19 +708,17 @@ public final class WorldProver {
                 return NONE;
             }
             expect('(');
-            int formula = letter == Terms.LAMBDA ? readLambdaFormula() : 0;
+            int formula = 0;
+            if (letter == Terms.LAMBDA) {
+                formula = readBothWays();
+                expect(',');
+            }
             int a = readPart(letter, 0, around);
             int b = readPart(letter, 1, around);
             int c = readPart(letter, 2, around);
             expect(')');
             open--;
             return terms.add(letter, a, letter == Terms.LAMBDA ? formula : b, c, NONE);
-        }
-
-        private int readLambdaFormula() {
-            int f = readBothWays();
-            expect(',');
-            return f;
         }
 
         private int readPart(int letter, int part, int around) {
@@ -1054,7 +1058,7 @@ public final class WorldProver {
         }
 
         private boolean isAt(int d, int i) {
-            return isRow(d) && i >= 0 && i < sizes[d] && i < MOST_LEFT;
+            return d >= 0 && d < ROWS && i >= 0 && i < sizes[d] && i < MOST_LEFT;
         }
 
         int sizeOf(int d) {
@@ -1074,8 +1078,9 @@ public final class WorldProver {
         }
 
         int indexOf(int d, int f) {
-            for (int i = 0; i < sizeOf(d); i++) {
-                if (formulaAt(d, i) == f) {
+            int size = d >= 0 && d < ROWS ? Math.min(sizes[d], MOST_LEFT) : 0;
+            for (int i = 0; i < size; i++) {
+                if (formulas[d * MOST_LEFT + i] == f) {
                     return i;
                 }
             }
@@ -1250,21 +1255,18 @@ public final class WorldProver {
             for (int i = 0; i < many && i < givens.length; i++) {
                 sequents.comes(0, givens[i], terms.hypothesis(i));
             }
-            answer = decide();
-            return answer;
-        }
-
-        private int decide() {
             int depth = 0;
             int outcome = PREMISE_LAID;
-            for (int turn = 0; turn < MOST_TURNS && depth >= 0; turn++) {
-                outcome = outcome == PREMISE_LAID ? begin(depth) : goOn(depth, outcome);
-                if (outcome == SPENT || outcome == FULL) {
-                    return outcome;
+            for (int turn = 0; turn < MOST_TURNS && depth >= 0 && outcome >= 0; turn++) {
+                if (outcome == PREMISE_LAID) {
+                    outcome = begin(depth);
+                } else {
+                    outcome = outcome == PROVED ? goOnProved(depth) : goOnFailed(depth);
                 }
                 depth += outcome == PREMISE_LAID ? 1 : -1;
             }
-            return depth < 0 ? outcome : FULL;
+            answer = outcome;
+            return answer;
         }
 
         private static void keep(int[] row, int d, int value) {
@@ -1313,10 +1315,6 @@ public final class WorldProver {
             if (goal == TRUE) {
                 return provedBy(terms.unit());
             }
-            return beginByShape(d, goal);
-        }
-
-        private int beginByShape(int d, int goal) {
             int kind = formulas.kindOf(goal);
             if (kind == IMPLIES) {
                 return beginBody(d, goal);
@@ -1325,7 +1323,7 @@ public final class WorldProver {
                 sequents.follow(d, NONE, formulas.firstOf(goal));
                 return waitFor(d, PAIR_FIRST);
             }
-            int i = firstReducible(d);
+            i = firstReducible(d);
             if (i >= 0) {
                 return reduce(d, i);
             }
@@ -1468,14 +1466,8 @@ public final class WorldProver {
                     && sequents.comes(d + 1, a, kept(bounds, d)), d, NESTED);
         }
 
-        /** Goes on at a level where the premise that was waited for has ended. */
-        private int goOn(int d, int outcome) {
-            if (d < 0 || d >= MOST_DEEP) {
-                return FULL;
-            }
-            if (outcome != PROVED) {
-                return goOnFailed(d);
-            }
+        /** Goes on at a level where the premise that was waited for was PROVED. */
+        private int goOnProved(int d) {
             switch (kept(stages, d)) {
                 case BODY:
                     return provedBy(terms.lambda(formulas.firstOf(sequents.goalOf(d)), found, kept(bounds, d)));
