@@ -40,6 +40,9 @@ public final class EdgesOfProofs {
         askingMakesNone();
         textsOfTerms();
         proofsAndHaving();
+        proofsFortyDeep();
+        havingFortyDeep();
+        checkAgain();
         classical();
         classicalMany();
         Dues.end("edges of proofs", 10, 16);
@@ -552,6 +555,8 @@ public final class EdgesOfProofs {
         proved(x, "a->b->a", "L(a,L(b,h20))");
         proved(x, "a->b->b", "L(a,L(b,h21))");
         Dues.of(14, "those that are bound within it are numbered by where it stands");
+        proved(from("c", "a|b"), "(c&a)|(b&c)", "C(h1,I(P(h0,h2)),J(P(h2,h0)))");
+        proved(from("a|b", "c|d"), "(c|d)&(b|a)", "P(h1,C(h0,C(h1,J(h2),J(h2)),C(h1,I(h2),I(h2))))");
         proved(from("a|b->c"), "d->a->c", "L(d,L(a,A(L(a,A(h0,I(h3))),h2)))");
         proved(from("a&b->c"), "a->b->c", "L(a,L(b,A(A(L(a,L(b,A(h0,P(h3,h4)))),h1),h2)))");
     }
@@ -820,6 +825,71 @@ public final class EdgesOfProofs {
             x.text(terms[i]);
             for (int k = 0; k < f.length; k++) due("check of " + terms[i] + " for " + goals[k], x.check(f[k]), due[i].charAt(k) - '0');
         }
+    }
+
+    private static int times(Asker x, int count, int kind, int other, boolean before, int f) {
+        int g = f;
+        for (int i = 0; i < count; i++) g = before ? x.make(kind, other, g) : x.make(kind, g, other);
+        return g;
+    }
+
+    private static void accepted(Asker x, String term, int f) {
+        due("check of " + term.substring(0, 8) + "..", x.check(term, f), 1);
+        due("for another", x.check(0 == f ? 1 : 0), 0);
+    }
+
+    private static void proofsFortyDeep() {
+        Dues.of(15, "3 the 41st: what is 40 deep is read, and asked");
+        Asker x = new Asker();
+        int a = x.read("a");
+        accepted(x, "I(".repeat(40) + "T" + ")".repeat(40), times(x, 40, 4, a, false, 1));
+        accepted(x, "J(".repeat(40) + "T" + ")".repeat(40), times(x, 40, 4, a, true, 1));
+        accepted(x, "P(".repeat(40) + "T" + ",T)".repeat(40), times(x, 40, 3, 1, false, 1));
+        accepted(x, "P(T,".repeat(40) + "T" + ")".repeat(40), times(x, 40, 3, 1, true, 1));
+        accepted(x, "L(a,".repeat(40) + "T" + ")".repeat(40), times(x, 40, 5, a, true, 1));
+        x = from("a|b", "false", "a->a", "a");
+        due("X", x.check("X(".repeat(40) + "h1" + ")".repeat(40), x.read("b")), 1);
+        accepted(x, "C(h0,".repeat(40) + "T" + ",T)".repeat(40), 1);
+        accepted(x, "C(h0,T,".repeat(40) + "T" + ")".repeat(40), 1);
+        x = from("a|b", "false", "a->a", "a");
+        accepted(x, "A(h2,".repeat(40) + "h3" + ")".repeat(40), x.read("a"));
+        Dues.of(15, "u under A, v under B: one more hypothesis, and those bound within it");
+        x = from("a|b", "a->c", "b->c");
+        int c = x.read("c");
+        due("check", x.check("C(h0,A(L(a,A(h1,h4)),h3),A(L(b,A(h2,h4)),h3))", c), 1);
+        due("check", x.check("C(h0,A(L(a,A(h1,h3)),h3),A(L(b,A(h2,h3)),h3))", c), 1);
+        due("check", x.check("C(h0,A(L(true,A(h1,h4)),T),A(h2,h3))", c), 0);
+        due("check", x.check("C(h0,A(h1,h3),A(L(true,A(h2,h4)),T))", c), 0);
+    }
+
+    private static void havingFortyDeep() {
+        Dues.of(15, "What a TERM HAS, 40 deep");
+        Asker x = new Asker();
+        int a = x.read("a");
+        x.given(times(x, 40, 3, 1, false, a));
+        x.given(times(x, 40, 3, 1, true, a));
+        x.given(times(x, 40, 5, a, true, 1));
+        x.given(a);
+        accepted(x, "F(".repeat(40) + "h0" + ")".repeat(40), a);
+        accepted(x, "S(".repeat(40) + "h1" + ")".repeat(40), a);
+        accepted(x, "A(".repeat(40) + "h2" + ",h3)".repeat(40), 1);
+        accepted(x, "F(".repeat(20) + "P(".repeat(20) + "h3" + ",T)".repeat(20) + ")".repeat(20), a);
+        accepted(x, "S(".repeat(20) + "P(T,".repeat(20) + "h3" + ")".repeat(40), a);
+        accepted(x, "A(".repeat(20) + "L(true,".repeat(20) + "h3" + ")".repeat(20) + ",T)".repeat(20), a);
+    }
+
+    private static void checkAgain() {
+        Dues.of(15, "THE TEXT is read as a term, again and again");
+        Asker x = from("a");
+        int a = x.read("a");
+        String pairs = "T";
+        for (int i = 0; i < 5; i++) pairs = "P(" + pairs + ",P(h0," + pairs + "))";
+        x.text("F(P(h0,P(L(a,h0),P(" + pairs + ",L(b,P(h1,h0)))))");
+        due("check without its last )", x.check(a), -12);
+        due("feed", x.append(")") > 0 ? 1 : 0, 1);
+        int formulas = x.count(0);
+        for (int i = 0; i < 300; i++) due("check", x.check(a), 1);
+        due("count(0)", x.count(0), formulas);
     }
 
     // ---- 16
