@@ -8,6 +8,7 @@ public final class EdgesOfTexts {
     public static void main(String[] args) {
         newObject();
         newObjectBesideOthers();
+        callsAtMost();
         feedBytes();
         feedOutside();
         feedFull();
@@ -134,6 +135,24 @@ public final class EdgesOfTexts {
         asNew(new Asker());
         due("count(0) of the used one", used.count(0), 7);
         due("place() of the used one", used.place(), 4);
+    }
+
+    private static void callsAtMost() {
+        Dues.of(1, "An object is used for at most 512 calls");
+        Asker x = new Asker();
+        int f = x.read("a|b->b|a");
+        for (int i = 0; x.callsLeft() > 9; i++) {
+            due("prove", x.prove(f, i % 10), i % 10 < 7 ? -6 : 1);
+            due("given", x.given(1), 1);
+            due("world(0)", x.world(0), 1);
+            due("check(1)", x.check(1), -12);
+            due("forget()", x.forget(), 1);
+            due("clear()", x.clear(), 2);
+        }
+        due("prove", x.prove(f, 7), 1);
+        while (x.callsLeft() > 2) due("count(0)", x.count(0), 7);
+        due("the 511th: proof()", x.proof(), 26);
+        due("the 512th: octet(25)", x.octet(25), ')');
     }
 
     // ---- 2
