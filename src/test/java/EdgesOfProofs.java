@@ -414,6 +414,11 @@ public final class EdgesOfProofs {
         proved(new Asker(), "a->a->a", "L(a,L(a,h0))");
         proved(from("a|b", "a"), "c|a", "C(h0,J(h1),J(h1))");
         proved(from("b->c", "a->c", "a", "b"), "d|c", "J(A(h0,h3))");
+        proved(from("a&b", "d", "a->c", "b->c"), "e|c", "J(A(h2,F(h0)))");
+        Dues.of(12, "what GOES is taken out, the others stay in order");
+        proved(from("true", "b->c", "a", "b", "a->c"), "d|c", "J(A(h1,h3))");
+        proved(from("e", "true", "b->c", "a->c", "a", "b"), "d|c", "J(A(h2,h5))");
+        proved(from("false->e", "b->c", "a", "b", "a->c"), "d|c", "J(A(h1,h3))");
     }
 
     private static void firstThatFits() {
