@@ -340,7 +340,7 @@ public final class WorldProver {
             if (variables < 0 || variables >= MOST_VARIABLES) {
                 return NONE;
             }
-            int f = joined(VARIABLE, variables, 0);
+            int f = addTo(chainOf(VARIABLE, variables, 0), VARIABLE, variables, 0);
             if (f >= 0) {
                 names[variables] = name;
                 variables++;
@@ -497,7 +497,6 @@ public final class WorldProver {
         private static boolean isDigit(int sign) {
             return sign >= '0' && sign <= '9';
         }
-
     }
 
     /**
