@@ -24,11 +24,13 @@ public final class EdgesOfProofs {
         madeStays();
         comesOnce();
         firstThatFits();
+        behindAnother();
         told();
         toldOfLatest();
         proofRefused();
         proofTooLong();
         proofOfLatest();
+        proofByNested();
         checkOfNone();
         hypotheses();
         hypothesesAround();
@@ -40,6 +42,7 @@ public final class EdgesOfProofs {
         askingMakesNone();
         textsOfTerms();
         proofsAndHaving();
+        boundWithin();
         proofsFortyDeep();
         havingFortyDeep();
         checkAgain();
@@ -385,6 +388,7 @@ public final class EdgesOfProofs {
         due("told(0)", x.told(0), 200);
         due("201 steps", x.prove(f, 201), -7);
         due("told(0)", x.told(0), 200);
+        due("told(1): b COMES once", x.told(1), 1);
         int g = x.formula(f, 2);
         due("the one within, 199 steps", x.prove(g, 199), -6);
         due("the one within, 200 steps", x.prove(g, 200), 0);
@@ -438,6 +442,21 @@ public final class EdgesOfProofs {
         proved(from("a|b"), "true|c", "C(h0,I(T),I(T))");
         proved(from("(a->b)->c", "b"), "b|c", "I(h1)");
         proved(from("(a->b)->c", "b"), "d|c", "J(A(h0,L(a,h1)))");
+    }
+
+    /** The premise c -> c is PROVED by rule 4 at the depth at which rule 6 then has its turn. */
+    private static void behindAnother() {
+        Dues.of(12, "6 .. Then PROVING what there is (as deep as a PROVING by another rule was)");
+        String goal = "(c->c)&(d|b)";
+        proved(from("true", "b"), goal, "P(L(c,h2),J(h1))");
+        proved(from("a&b"), goal, "P(L(c,h1),J(S(h0)))");
+        proved(from("true->b"), goal, "P(L(c,h1),J(A(h0,T)))");
+        proved(from("false->a", "b"), goal, "P(L(c,h2),J(h1))");
+        proved(from("a->b", "a"), goal, "P(L(c,h2),J(A(h0,h1)))");
+        proved(from("a&e->b", "a", "e"), goal, "P(L(c,h3),J(A(A(L(a,L(e,A(h0,P(h3,h4)))),h1),h2)))");
+        proved(from("a|e->b", "e"), goal, "P(L(c,h2),J(A(L(e,A(h0,J(h2))),h1)))");
+        proved(from("a|b"), "(c->c)&(b|a)", "P(L(c,h1),C(h0,J(h1),I(h1)))");
+        proved(from("(a->a)->b"), goal, "P(L(c,h1),J(A(h0,L(a,h1))))");
     }
 
     // ---- 13
@@ -564,6 +583,21 @@ public final class EdgesOfProofs {
         proved(from("a|b", "c|d"), "(c|d)&(b|a)", "P(h1,C(h0,C(h1,J(h2),J(h2)),C(h1,I(h2),I(h2))))");
         proved(from("a|b->c"), "d->a->c", "L(d,L(a,A(L(a,A(h0,I(h3))),h2)))");
         proved(from("a&b->c"), "a->b->c", "L(a,L(b,A(A(L(a,L(b,A(h0,P(h3,h4)))),h1),h2)))");
+    }
+
+    private static void proofByNested() {
+        Dues.of(14, "8 .. with B -> D that COMES with L(B,A(t,L(A,hn)))");
+        Asker x = new Asker();
+        proved(x, "~~(~~a->a)", "L(((((a->false)->false)->a)->false),A(h0,L(((a->false)->false),"
+            + "X(A(h1,L(a,A(L(a,A(h0,L(((a->false)->false),h3))),h2)))))))");
+        due("told(0)", x.told(0), 7);
+        due("told(2)", x.told(2), 5);
+        x = new Asker();
+        proved(x, "~~(((a->b)->a)->a)", "L(((((a->b)->a)->a)->false),A(h0,L(((a->b)->a),"
+            + "A(h1,L(a,X(A(L(a,A(h0,L(((a->b)->a),h3))),h2)))))))");
+        due("told(0)", x.told(0), 7);
+        x = from("c", "(~~a->a)->false");
+        proved(x, "false", "A(h1,L(((a->false)->false),X(A(h2,L(a,A(L(a,A(h1,L(((a->false)->false),h4))),h3))))))");
     }
 
     // ---- 15
@@ -774,6 +808,11 @@ public final class EdgesOfProofs {
         due("count(1)", x.count(1), 3);
         due("h0 as a formula", x.check("L(h0,h0)", 1), 0);
         due("count(1)", x.count(1), 4);
+        x = new Asker();
+        fault(x, "P(F(),L(z,T))", 2, 4);
+        due("count(1): z is behind the fault", x.count(1), 0);
+        fault(x, "L((a&)&z,T)", 2, 5);
+        due("count(1): z is behind the fault", x.count(1), 1);
     }
 
     private static void askingMakesNone() {
@@ -834,6 +873,22 @@ public final class EdgesOfProofs {
         }
     }
 
+    private static void boundWithin() {
+        Dues.of(15, "L(A,t): t under one more hypothesis, A (within each letter)");
+        String[] terms = {"P(L(a,h2),L(b,h2))", "P(L(a,h2),L(b,h1))", "I(L(a,h2))", "J(L(a,h2))", "X(F(A(L(false&a,h2),h1)))",
+            "C(A(L(a|b,h2),h0),I(h2),J(h2))", "C(h0,I(A(L(a,h3),h2)),J(A(L(b,h3),h2)))", "C(h0,I(A(L(a,h2),h2)),J(A(L(b,h0),h2)))",
+            "F(P(L(a,h2),T))", "S(P(T,L(a,h2)))", "F(P(L(a,h1),T))", "A(L(a->a,h2),L(a,h2))", "L(a,L(b,h2))", "L(a,L(b,h3))", "L(a,L(b,h1))"};
+        String[] goals = {"(a->a)&(b->b)", "(a->a)&(b->b)", "(a->a)|b", "b|(a->a)", "b",
+            "a|b", "a|b", "a|b",
+            "a->a", "a->a", "a->a", "a->a", "a->b->a", "a->b->b", "a->b->b"};
+        int[] due = {1, 0, 1, 1, 1, 1, 1, 0, 1, 1, 0, 1, 1, 1, 0};
+        for (int i = 0; i < terms.length; i++) {
+            Asker x = from("a|b", "false&a");
+            int f = x.read(goals[i]);
+            due("check of " + terms[i] + " for " + goals[i], x.check(terms[i], f), due[i]);
+        }
+    }
+
     private static int times(Asker x, int count, int kind, int other, boolean before, int f) {
         int g = f;
         for (int i = 0; i < count; i++) g = before ? x.make(kind, other, g) : x.make(kind, g, other);
@@ -860,6 +915,11 @@ public final class EdgesOfProofs {
         accepted(x, "C(h0,T,".repeat(40) + "T" + ")".repeat(40), 1);
         x = from("a|b", "false", "a->a", "a");
         accepted(x, "A(h2,".repeat(40) + "h3" + ")".repeat(40), x.read("a"));
+        x = new Asker();
+        x.read("a|b");
+        for (int i = 0; i < 20; i++) x.given(4);
+        accepted(x, "L(a,".repeat(40) + "h59" + ")".repeat(40), times(x, 40, 5, 2, true, 2));
+        due("C behind 20 given", x.check("C(h19,".repeat(40) + "T" + ",T)".repeat(40), 1), 1);
         Dues.of(15, "u under A, v under B: one more hypothesis, and those bound within it");
         x = from("a|b", "a->c", "b->c");
         int c = x.read("c");

@@ -528,6 +528,12 @@ public final class EdgesOfTexts {
         fault(x, "~~a ~", 2, 4);
         due("count(0)", x.count(0), 5);
         due("~~a", x.read("~~a"), 4);
+        x = new Asker();
+        fault(x, "(a&)&z", 2, 3);
+        due("count(1): z is behind the fault", x.count(1), 1);
+        fault(x, "((a|)->y)&z", 2, 4);
+        due("count(1)", x.count(1), 1);
+        due("count(0)", x.count(0), 3);
     }
 
     private static void oneOfEachKind() {

@@ -13,6 +13,7 @@ public final class EdgesOfWorlds {
         refuteOfLatest();
         refuteNumbers();
         refuteWhichPremise();
+        refuteDeep();
         clear();
         world();
         worldTakesOver();
@@ -188,6 +189,34 @@ public final class EdgesOfWorlds {
         x = failed("a");
         due("refute()", x.refute(), 1);
         due("worlds", x.worlds(), "-1:");
+    }
+
+    /** The refutation of a goal that stands behind so many b -> (which come to be forced). */
+    private static Asker behindArrows(Asker x, String goal, int arrows) {
+        int f = x.read(goal);
+        int b = x.read("b");
+        for (int i = 0; i < arrows; i++) f = x.make(5, b, f);
+        due("prove of " + goal + " behind " + arrows, x.prove(f, 2000), 0);
+        due("told(2)", x.told(2), 200);
+        return x;
+    }
+
+    private static void refuteDeep() {
+        Dues.of(17, "The REFUTATION of a SEQUENT that FAILED: as deep as can be");
+        Asker x = behindArrows(new Asker(), "a", 199);
+        due("refute()", x.refute(), 1);
+        due("worlds", x.worlds(), "-1:1");
+        x = behindArrows(new Asker(), "a|c", 198);
+        due("refute()", x.refute(), 3);
+        due("worlds", x.worlds(), "-1:2 0:2 0:2");
+        x = behindArrows(new Asker(), "a|(c|d)", 197);
+        due("refute()", x.refute(), 5);
+        due("worlds", x.worlds(), "-1:3 0:3 0:3 2:3 2:3");
+        x = new Asker();
+        x.given(x.read("(a->c)->d"));
+        behindArrows(x, "a", 198);
+        due("refute()", x.refute(), 2);
+        due("worlds", x.worlds(), "-1:3 0:03");
     }
 
     // ---- 18
